@@ -3,6 +3,7 @@ public final class TimedNet {
     public static final int NONE = -1;
 
     private static final int LAST_TICK = 5000;
+    private static final int TICKS = LAST_TICK + 1;
     private static final int NEVER = LAST_TICK + 1;
     private static final int MOST_NODES = 24;
     private static final int MOST_LEAST_WAIT = 200;
@@ -86,7 +87,7 @@ public final class TimedNet {
             return refuse(TOO_MANY);
         }
         int number = lines.add(from, to, kind, leaves, takes, runs, kind == AGAIN ? period : 0);
-        enter(PUT, number, 0, 0);
+        log.add(PUT, number, 0, 0);
         return answer(number);
     }
 
@@ -101,7 +102,7 @@ public final class TimedNet {
             return deny(STRUCK_ALREADY);
         }
         lines.struck[line] = true;
-        enter(STRIKE, line, 0, 0);
+        log.add(STRIKE, line, 0, 0);
         return agree();
     }
 
@@ -118,7 +119,7 @@ public final class TimedNet {
         if (lines.struck[line]) {
             return deny(STRUCK_ALREADY);
         }
-        enter(DELAY, lines.base[line] + run, ticks, 0);
+        log.add(DELAY, lines.base[line] + run, ticks, 0);
         return agree();
     }
 
@@ -132,7 +133,7 @@ public final class TimedNet {
         if (log.closings >= MOST_CLOSINGS || log.isFull()) {
             return deny(TOO_MANY);
         }
-        enter(CLOSE, node, from, to);
+        log.add(CLOSE, node, from, to);
         return agree();
     }
 
@@ -296,10 +297,16 @@ public final class TimedNet {
         }
         explore(a, tick, log.size, true);
         int runs = search.trace(b, spareRow);
-        if (runs == NONE) {
-            return refuse(NO_WAY);
+        int found = NONE;
+        int latest = NONE;
+        for (int line = 0; line < lines.size; line++) {
+            int coming = isInSpareRow(line, runs) ? comingWithout(a, b, tick, line) : NONE;
+            if (coming > latest) {
+                latest = coming;
+                found = line;
+            }
         }
-        return answer(weakestOfSpareRow(a, b, tick, runs));
+        return answerOfWay(found);
     }
 
     public int stand(int v) {
@@ -334,11 +341,6 @@ public final class TimedNet {
         return false;
     }
 
-    private void enter(int kind, int subject, int from, int to) {
-        log.add(kind, subject, from, to);
-        view.forget();
-    }
-
     private void explore(int a, int tick, int v, boolean counting) {
         view.show(v);
         search.spread(a, tick, NONE, counting);
@@ -353,21 +355,6 @@ public final class TimedNet {
         search.spread(a, tick, line, false);
         int coming = search.firstComing(b);
         return coming == NONE ? NEVER : coming;
-    }
-
-    private int weakestOfSpareRow(int a, int b, int tick, int runs) {
-        int found = NONE;
-        int latest = NONE;
-        for (int line = 0; line < lines.size; line++) {
-            if (isInSpareRow(line, runs)) {
-                int coming = comingWithout(a, b, tick, line);
-                if (coming > latest) {
-                    latest = coming;
-                    found = line;
-                }
-            }
-        }
-        return found;
     }
 
     private boolean isInSpareRow(int line, int runs) {
@@ -590,6 +577,7 @@ public final class TimedNet {
             this.log = log;
         }
 
+        // More CHANGES behind those that are shown alter nothing here; only an undone one can.
         private void forget() {
             shown = NONE;
         }
@@ -654,7 +642,7 @@ public final class TimedNet {
                     && !isClosed(lines.from[line], leavings[run])
                     && !isClosed(lines.to[line], comings[run]);
             if (stands[run]) {
-                goalKeys[run] = lines.to[line] * NEVER + comings[run];
+                goalKeys[run] = lines.to[line] * TICKS + comings[run];
                 byLeaving[size] = run;
                 byGoal[size] = run;
                 size++;

@@ -130,18 +130,6 @@ public final class LimitsTest {
 
     // Each run of all 1,200 is on the way: it goes to and fro at each tick, as nobody may wait.
     private static void longestWay() {
-        TimedNet x = netOf(2);
-        for (int i = 0; i < 10; i++) {
-            x.line(0, 1, 1, 120 * i, 1, 60, 2);
-            x.line(1, 0, 1, 120 * i + 1, 1, i == 9 ? 59 : 60, 2);
-        }
-        x.node(0, NONE);
-        x.line(1, 2, 0, 1199, 500, 0, 0);
-        x.waits(0, 0, 0);
-        x.waits(1, 0, 0);
-        x.node(0, NONE);
-        due("a late start is as good", x.way(0, 2, 0, 21), 2);
-        due("quickest", x.quickest(0, 2, 0, 5000, 21), 501);
         TimedNet y = netOf(4);
         y.line(3, 0, 0, 0, 1, 0, 0);
         for (int i = 0; i < 10; i++) {

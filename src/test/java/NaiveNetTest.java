@@ -672,7 +672,7 @@ public final class NaiveNetTest {
                 case 1: return waits(true);
                 case 2: return line();
                 case 3: return new int[] {line};
-                case 4: return new int[] {line, random.nextBoolean() ? 0 : run, seldom() ? odd(-1, 500, 501) : below(9)};
+                case 4: return delay(line, run);
                 case 5: return closing(a);
                 case 8: return new int[] {line, seldom() ? odd(-1, 8) : below(8)};
                 case 9: return new int[] {line, run, version(x), seldom() ? odd(-1, 3) : below(3)};
@@ -689,6 +689,11 @@ public final class NaiveNetTest {
                 case 22: return new int[] {version(x)};
                 default: return new int[] {};
             }
+        }
+
+        private int[] delay(int line, int run) {
+            int ticks = seldom() ? odd(-1, 500, 501) : below(9);
+            return new int[] {line, random.nextBoolean() ? 0 : run, ticks};
         }
 
         private int[] closing(int a) {

@@ -294,6 +294,15 @@ public final class PromisesTest {
         fine("10: its number is free", x, x.line(1, 0, 1, 7, 8, 2, 9), 0);
         due("10: nothing is left of the old one", x.run(0, 0, 1, 0), 7);
         due("10: nor its end", x.told(0, 0), 1);
+        due("10: asked as it is now", x.stand(1), 2);
+        x.undo();
+        once(x, 0, 1, 3, 4);
+        due("10: asked anew", x.stand(1), 1);
+        x.delay(0, 0, 1);
+        due("10: late", x.first(0, 1, 0, 2), 8);
+        x.undo();
+        x.close(0, 3, 3);
+        due("10: another change of the same number", x.first(0, 1, 0, 2), NONE);
     }
 
     private static void promise11() {
@@ -683,6 +692,26 @@ public final class PromisesTest {
         x.way(0, 1, 0, 6);
         x.weakest(0, 2, 0);
         outIs("24: OUT stays", x, 1, 0);
+        weakestAtTheEndOfTime();
+        weakestOfTheWayAlone();
+    }
+
+    private static void weakestAtTheEndOfTime() {
+        TimedNet x = netOf(3);
+        once(x, 0, 1, 4400, 99);
+        x.line(1, 2, 1, 4499, 1, 2, 500);
+        once(x, 0, 1, 4600, 399);
+        x.waits(1, 0, 0);
+        fine("24: coming at 5000", x, x.without(0, 2, 0, 0), 5000);
+        fine("24: none is later than 5000", x, x.weakest(0, 2, 0), 1);
+    }
+
+    private static void weakestOfTheWayAlone() {
+        TimedNet x = netOf(2);
+        once(x, 0, 1, 1, 9);
+        once(x, 0, 1, 2, 3);
+        once(x, 0, 1, 1, 4);
+        fine("24: no other line, if none is missed", x, x.weakest(0, 1, 0), 1);
     }
 
     private static void promise25() {
