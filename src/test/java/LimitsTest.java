@@ -30,6 +30,7 @@ public final class LimitsTest {
         mostClosings();
         mostChanges();
         longestWay();
+        firstAndLastTick();
         fullNet();
         oddNumbers(new TimedNet());
         oddNumbers(madeFull());
@@ -149,6 +150,15 @@ public final class LimitsTest {
         due("last", y.last(3, 2, 5000, 22), 0);
         due("pairs", y.pairs(3, 2, 22), 1);
         due("weakest", y.weakest(3, 2, 0), 0);
+    }
+
+    private static void firstAndLastTick() {
+        TimedNet x = netOf(3);
+        x.line(2, 1, 0, 0, 1, 0, 0);
+        x.line(2, 0, 0, 4999, 1, 0, 0);
+        due("both are reached", x.reached(2, 0, 5000, 2), 3);
+        due("at the first tick", x.first(2, 1, 0, 2), 1);
+        due("at the last tick", x.first(2, 0, 0, 2), 5000);
     }
 
     private static TimedNet madeFull() {
