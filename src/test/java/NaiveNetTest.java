@@ -9,8 +9,6 @@ import java.util.TreeSet;
  * answer off that list, as the document defines it.
  */
 public final class NaiveNetTest {
-    private static final int MOST_CALLS = 512;
-
     record Run(int line, int number, int from, int to, int leaves, int comes, boolean stands) { }
 
     /** A WAY in its order. */
@@ -548,35 +546,6 @@ public final class NaiveNetTest {
         }
     }
 
-    private static int askNet(TimedNet x, int what, int[] g) {
-        switch (what) {
-            case 0: return x.node(g[0], g[1]);
-            case 1: return x.waits(g[0], g[1], g[2]) ? 1 : 0;
-            case 2: return x.line(g[0], g[1], g[2], g[3], g[4], g[5], g[6]);
-            case 3: return x.strike(g[0]) ? 1 : 0;
-            case 4: return x.delay(g[0], g[1], g[2]) ? 1 : 0;
-            case 5: return x.close(g[0], g[1], g[2]) ? 1 : 0;
-            case 6: return x.changes();
-            case 7: return x.undo() ? 1 : 0;
-            case 8: return x.told(g[0], g[1]);
-            case 9: return x.run(g[0], g[1], g[2], g[3]);
-            case 10: return x.first(g[0], g[1], g[2], g[3]);
-            case 11: return x.last(g[0], g[1], g[2], g[3]);
-            case 12: return x.quickest(g[0], g[1], g[2], g[3], g[4]);
-            case 13: return x.fewest(g[0], g[1], g[2], g[3], g[4]);
-            case 14: return x.way(g[0], g[1], g[2], g[3]);
-            case 15: return x.out(g[0]);
-            case 16: return x.pairs(g[0], g[1], g[2]);
-            case 17: return x.pair(g[0], g[1], g[2], g[3], g[4] == 1);
-            case 18: return x.reached(g[0], g[1], g[2], g[3]);
-            case 19: return x.isReached(g[0], g[1], g[2], g[3], g[4]);
-            case 20: return x.without(g[0], g[1], g[2], g[3]);
-            case 21: return x.weakest(g[0], g[1], g[2]);
-            case 22: return x.stand(g[0]);
-            default: return x.status();
-        }
-    }
-
     private static final String[] NAMES = {
         "node", "waits", "line", "strike", "delay", "close", "changes", "undo", "told", "run", "first", "last",
         "quickest", "fewest", "way", "out", "pairs", "pair", "reached", "isReached", "without", "weakest",
@@ -638,8 +607,7 @@ public final class NaiveNetTest {
             return random.nextBoolean() ? tick() : odd(5000, Math.min(5000, base + 2 * ticks));
         }
 
-        private int version(TimedNet x) {
-            int all = x.changes();
+        private int version(int all) {
             if (seldom()) {
                 return odd(-1, all + 1, Integer.MIN_VALUE, Integer.MAX_VALUE);
             }
@@ -662,7 +630,7 @@ public final class NaiveNetTest {
             return new int[] {a, b, kind, tick(), takes, times, period};
         }
 
-        int[] arguments(int what, TimedNet x, int lines) {
+        int[] arguments(int what, int all, int lines) {
             int a = oneNode();
             int b = otherNode(a);
             int line = seldom() ? odd(-1, lines, 100) : below(lines);
@@ -675,18 +643,18 @@ public final class NaiveNetTest {
                 case 4: return delay(line, run);
                 case 5: return closing(a);
                 case 8: return new int[] {line, seldom() ? odd(-1, 8) : below(8)};
-                case 9: return new int[] {line, run, version(x), seldom() ? odd(-1, 3) : below(3)};
-                case 10: case 14: return new int[] {a, b, early(), version(x)};
-                case 11: return new int[] {a, b, late(), version(x)};
-                case 12: case 13: return new int[] {a, b, early(), late(), version(x)};
+                case 9: return new int[] {line, run, version(all), seldom() ? odd(-1, 3) : below(3)};
+                case 10: case 14: return new int[] {a, b, early(), version(all)};
+                case 11: return new int[] {a, b, late(), version(all)};
+                case 12: case 13: return new int[] {a, b, early(), late(), version(all)};
                 case 15: return new int[] {seldom() ? odd(-1, 2400) : below(8)};
-                case 16: return new int[] {a, b, version(x)};
-                case 17: return new int[] {a, b, version(x), below(4) - (seldom() ? 1 : 0), below(2)};
-                case 18: return new int[] {a, early(), late(), version(x)};
-                case 19: return new int[] {a, random.nextInt(6) == 0 ? a : b, early(), late(), version(x)};
+                case 16: return new int[] {a, b, version(all)};
+                case 17: return new int[] {a, b, version(all), below(4) - (seldom() ? 1 : 0), below(2)};
+                case 18: return new int[] {a, early(), late(), version(all)};
+                case 19: return new int[] {a, random.nextInt(6) == 0 ? a : b, early(), late(), version(all)};
                 case 20: return new int[] {a, b, early(), line};
                 case 21: return new int[] {a, b, early()};
-                case 22: return new int[] {version(x)};
+                case 22: return new int[] {version(all)};
                 default: return new int[] {};
             }
         }
@@ -731,44 +699,105 @@ public final class NaiveNetTest {
         }
     }
 
-    private static void compareOut(long seed, int call, TimedNet x, Model model) {
+    private static void compareOut(long seed, int call, Net x, Model model) {
         int[] none = {};
-        for (int k = -1; k <= model.out.size(); k++) {
+        for (int k = -1; k <= model.out.size() && x.callsLeft() > 0; k++) {
             int want = k >= 0 && k < model.out.size() ? model.out.get(k) : -1;
-            compare(seed, call, 15, none, new int[] {x.out(k), k}, new int[] {want, k});
+            compare(seed, call, 15, none, new int[] {x.ask("out", k), k}, new int[] {want, k});
+        }
+    }
+
+    private static void ask(long seed, int call, Net x, Model model, int what, int... g) {
+        int got = x.ask(NAMES[what], g);
+        int want = model.ask(what, g);
+        compare(seed, call, what, g, new int[] {got, x.ask("status")}, new int[] {want, model.status});
+        if (model.status == 0) {
+            GOOD[what]++;
+        }
+        if (what == 14 || what == 21) {
+            compareOut(seed, call, x, model);
         }
     }
 
     private static void play(long seed, boolean all, int calls) {
         Maker maker = all ? new Maker(seed, 5, 7, 4, 24) : new Maker(seed, 8, 30, 12, 120);
-        TimedNet x = new TimedNet();
+        Net x = new Net();
         Model model = new Model(all);
-        for (int call = 0; call < calls; call++) {
+        for (int call = 0; call < calls && x.callsLeft() > 1; call++) {
             int lines = model.lines(model.log.size()).size();
             int what = maker.nextCall(call, lines);
-            int[] g = maker.arguments(what, x, lines);
-            // Making the arguments asks x.changes(), which has a status of its own.
-            model.status = x.status();
-            int got = askNet(x, what, g);
-            int want = model.ask(what, g);
-            compare(seed, call, what, g, new int[] {got, x.status()}, new int[] {want, model.status});
-            if (model.status == 0) {
-                GOOD[what]++;
-            }
-            if (what == 14 || what == 21) {
-                compareOut(seed, call, x, model);
-            }
+            ask(seed, call, x, model, what, maker.arguments(what, model.log.size(), lines));
+        }
+    }
+
+    /** Fills a net with all that it can hold, then asks until no call is left. */
+    private static void playFull(long seed) {
+        Random random = new Random(seed);
+        Net x = new Net();
+        Model model = new Model(false);
+        fill(random, x, model);
+        for (int call = 424; x.callsLeft() > 1; call++) {
+            int what = new int[] {10, 11, 12, 13, 14, 16, 17, 18, 19, 20, 21, 22, 9}[call % 13];
+            int a = random.nextInt(24);
+            int b = (a + 1 + random.nextInt(23)) % 24;
+            int early = random.nextInt(2000);
+            int late = 2500 + random.nextInt(2501);
+            int v = 400 - random.nextInt(3) * random.nextInt(100);
+            ask(seed, call, x, model, what, argumentsOfFull(what, new int[] {a, b, early, late, v}));
+        }
+    }
+
+    private static void fill(Random random, Net x, Model model) {
+        List<int[]> changes = new ArrayList<>();
+        for (int i = 0; i < 24; i++) {
+            changes.add(new int[] {0, random.nextInt(40), random.nextBoolean() ? -1 : 40 + random.nextInt(400)});
+        }
+        for (int i = 0; i < 100; i++) {
+            int from = random.nextInt(24);
+            int to = (from + 1 + random.nextInt(23)) % 24;
+            changes.add(new int[] {2, from, to, 1 + i % 2, random.nextInt(4500), 1 + random.nextInt(500), 12,
+                1 + random.nextInt(200)});
+        }
+        for (int i = 0; i < 300; i++) {
+            int from = random.nextInt(4900);
+            int[] closing = {5, random.nextInt(24), from, from + random.nextInt(100)};
+            int[] delay = {4, random.nextInt(100), random.nextInt(12), random.nextInt(501)};
+            changes.add(i % 5 == 0 ? closing : i > 290 ? new int[] {3, i - 290} : delay);
+        }
+        for (int[] change : changes) {
+            int[] g = java.util.Arrays.copyOfRange(change, 1, change.length);
+            compare(0, 0, change[0], g, new int[] {x.ask(NAMES[change[0]], g), 0},
+                    new int[] {model.ask(change[0], g), model.status});
+        }
+    }
+
+    private static int[] argumentsOfFull(int what, int[] g) {
+        switch (what) {
+            case 9: return new int[] {g[2] % 100, g[3] % 12, g[4], g[1] % 3};
+            case 11: return new int[] {g[0], g[1], g[3], g[4]};
+            case 12: case 13: case 19: return new int[] {g[0], g[1], g[2], g[3], g[4]};
+            case 16: return new int[] {g[0], g[1], g[4]};
+            case 17: return new int[] {g[0], g[1], g[4], g[3] % 4, g[2] % 2};
+            case 18: return new int[] {g[0], g[2], g[3], g[4]};
+            case 20: return new int[] {g[0], g[1], g[2], g[3] % 100};
+            case 21: return new int[] {g[0], g[1], g[2]};
+            case 22: return new int[] {g[4]};
+            default: return new int[] {g[0], g[1], g[2], g[4]};
         }
     }
 
     public static void main(String[] args) {
         int small = args.length > 0 ? Integer.parseInt(args[0]) : 400;
         int large = args.length > 1 ? Integer.parseInt(args[1]) : 12;
+        int full = args.length > 2 ? Integer.parseInt(args[2]) : 3;
         for (long seed = 1; seed <= small; seed++) {
             play(seed, true, 200);
         }
         for (long seed = 1; seed <= large; seed++) {
-            play(-seed, false, MOST_CALLS / 2);
+            play(-seed, false, Net.MOST_CALLS);
+        }
+        for (long seed = 1; seed <= full; seed++) {
+            playFull(seed);
         }
         for (int what = 0; what < NAMES.length - 1; what++) {
             if (GOOD[what] < 20) {

@@ -1,51 +1,5 @@
 /** Each promise of the document by hand: ordinary inputs, the edges that it names, and wrong inputs. */
-public final class PromisesTest {
-    private static final int NONE = TimedNet.NONE;
-    private static int wrong = 0;
-
-    private static void due(String what, long got, long want) {
-        if (got != want) {
-            wrong++;
-            System.out.println(what + " answered " + got + ", due is " + want);
-        }
-    }
-
-    private static void due(String what, boolean got, boolean want) {
-        due(what, got ? 1 : 0, want ? 1 : 0);
-    }
-
-    private static void refused(String what, TimedNet x, int got, int status) {
-        due(what, got, NONE);
-        due(what + ", status", x.status(), status);
-    }
-
-    private static void refused(String what, TimedNet x, boolean got, int status) {
-        due(what, got, false);
-        due(what + ", status", x.status(), status);
-    }
-
-    private static void fine(String what, TimedNet x, int got, int want) {
-        due(what, got, want);
-        due(what + ", status", x.status(), 0);
-    }
-
-    private static void fine(String what, TimedNet x, boolean got) {
-        due(what, got, true);
-        due(what + ", status", x.status(), 0);
-    }
-
-    private static TimedNet netOf(int nodes) {
-        TimedNet x = new TimedNet();
-        for (int i = 0; i < nodes; i++) {
-            x.node(0, NONE);
-        }
-        return x;
-    }
-
-    private static int once(TimedNet x, int from, int to, int leaves, int takes) {
-        return x.line(from, to, 0, leaves, takes, 0, 0);
-    }
-
+public final class PromisesTest extends Checks {
     public static void main(String[] args) {
         promise1();
         promise2();
@@ -76,10 +30,7 @@ public final class PromisesTest {
         promise23();
         promise24();
         promise25();
-        System.out.println(wrong == 0 ? "all promises hold" : wrong + " answers are not as due");
-        if (wrong != 0) {
-            System.exit(1);
-        }
+        end("all promises hold");
     }
 
     private static void promise1() {
@@ -459,13 +410,6 @@ public final class PromisesTest {
         refused("16: from 5001", x, x.fewest(0, 3, 5001, 9, 6), 2);
         refused("16: to -1", x, x.fewest(0, 3, 0, -1, 6), 2);
         refused("16: v -1", x, x.fewest(0, 3, 0, 9, -1), 6);
-    }
-
-    private static void outIs(String what, TimedNet x, int... want) {
-        for (int k = 0; k < want.length; k++) {
-            due(what + ", out(" + k + ")", x.out(k), want[k]);
-        }
-        due(what + ", behind its end", x.out(want.length), NONE);
     }
 
     private static void promise17() {
